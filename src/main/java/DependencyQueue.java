@@ -169,10 +169,7 @@ public final class DependencyQueue {
     }
 
     public int receipt(int item) {
-        if (!queue.holds(item)) {
-            return BAD_ITEM;
-        }
-        return queue.receives[item] > 0 ? queue.receipt[item] : NONE;
+        return queue.holds(item) ? queue.receipt[item] : BAD_ITEM;
     }
 
     public int finish(int item, int receipt) {
@@ -498,6 +495,7 @@ public final class DependencyQueue {
         final int[] readySince = new int[MAX_ITEMS];
         final int[] deadline = new int[MAX_ITEMS];
         final int[] receives = new int[MAX_ITEMS];
+        /** For each item its latest receipt, or NONE. */
         final int[] receipt = new int[MAX_ITEMS];
         /** For each item the set of its predecessors by success edges. */
         final int[] needDone = new int[MAX_ITEMS];
@@ -565,7 +563,7 @@ public final class DependencyQueue {
         void startAnew(int item) {
             state[item] = WAITING;
             receives[item] = 0;
-            receipt[item] = 0;
+            receipt[item] = NONE;
         }
 
         void makeReady(int item, int pause) {
@@ -887,7 +885,7 @@ public final class DependencyQueue {
     private static final class Witness {
         int length = 0;
         final int[] path = new int[MAX_ITEMS];
-        /** The set of the items from which the path's end is reached by so many edges at least. */
+        /** For each number of edges the set of the items with so long a path to the last one. */
         private final int[] ring = new int[MAX_ITEMS];
 
         void forget() {
@@ -896,26 +894,20 @@ public final class DependencyQueue {
 
         void remember(Queue queue, int first, int last) {
             int distance = drawRings(queue, first, last);
-            int at = first;
             path[0] = first;
-            length = 1;
-            for (int left = distance - 1; left >= 0 && queue.holds(at); left--) {
-                at = lowestSuccessor(queue, at, ring[left]);
-                path[length] = at;
-                length++;
+            length = distance + 1;
+            for (int i = 1; i <= distance; i++) {
+                path[i] = lowestSuccessor(queue, path[i - 1], ring[distance - i]);
             }
         }
 
-        /** Answers the number of edges from the first item to the last one. */
+        /** Answers the fewest edges from the first item to the last one. */
         private int drawRings(Queue queue, int first, int last) {
             ring[0] = 1 << last;
-            int seen = ring[0];
             int distance = 0;
-            while (!Bits.has(ring[distance], first) && distance < MAX_ITEMS - 1) {
-                int next = predecessorsOfAll(queue, ring[distance]) & ~seen;
-                seen |= next;
+            while (distance < MAX_ITEMS - 1 && !Bits.has(ring[distance], first)) {
+                ring[distance + 1] = predecessorsOfAll(queue, ring[distance]);
                 distance++;
-                ring[distance] = next;
             }
             return distance;
         }
@@ -942,7 +934,9 @@ public final class DependencyQueue {
 
     /** A plan of the remaining work; it goes from one end of an item to the next. */
     private static final class Plan {
+        /** The time up to which the plan has been made; in the end, its length. */
         int length = 0;
+        /** For each item the time at which the plan starts it. */
         final int[] start = new int[MAX_ITEMS];
         private final int[] end = new int[MAX_ITEMS];
         /** When the item could be started first. */

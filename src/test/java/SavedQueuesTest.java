@@ -21,7 +21,9 @@ public final class SavedQueuesTest {
                 "restore(2) = -2; restore(0) = -4; restore(1) = -4; save(0) = 0; restore(1) = -4",
                 "restore(0) = 0; save(1) = 0; restore(1) = 0");
         SCRIPT.run("promise 41: all that was saved", BUSY, SEEN, "save(1) = 3;", SEEN,
-                "finish(1, 1) = 0; cancel(0) = 1; setPriority(2, 0) = -4; tick(30) = 0",
+                "setPriority(2, 0) = 5; extend(1, 1, 30) = 10; unlink(0, 2) = 1; link(0, 2, 1) = 2",
+                "finish(1, 1) = 0; cancel(0) = 0; state(2) = 1; tick(30) = 0",
+                "setPolicy(0) = 2; setGroupLimit(1) = 5; restore(1) = 3;", SEEN,
                 "setPolicy(0) = 2; setGroupLimit(1) = 5; clear() = 3; add(9, 9, 1, 0, 0) = 0",
                 "receive(1) = 0; receipt(0) = 3; restore(0) = -4; restore(1) = 3;", SEEN,
                 // The number of receipts is restored, so the next receipt is 3 again.
