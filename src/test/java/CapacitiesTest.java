@@ -47,7 +47,8 @@ public final class CapacitiesTest {
                 "setPolicy(0) = 1; setGroupLimit(3) = 9; setGroupLimit(9) = 3");
         SCRIPT.run("promise 1: the first receipt", ITEM + " = 0; receive(1) = 0; receipt(0) = 1");
         SCRIPT.run("promise 1: nothing for witness()", "witness(0) = NONE");
-        SCRIPT.run("promises 34, 35: all items have ended", TWENTY + Script.repeat(20, "cancel(#) = 0"),
+        SCRIPT.run("promises 34, 35: all items have ended",
+                TWENTY + Script.repeat(20, "cancel(#) = 0"),
                 "width() = 0; orders() = 1; planLength(1, 0) = 0; bestWorkers(0) = 1; items() = 20");
     }
 
@@ -62,6 +63,11 @@ public final class CapacitiesTest {
         SCRIPT.run("promises 1, 41: nothing is saved", "restore(0) = NOT_POSSIBLE",
                 "restore(1) = NOT_POSSIBLE; save(0) = 0; restore(1) = NOT_POSSIBLE",
                 "restore(0) = 0; save(1) = 0; restore(1) = 0");
+        for (String call : new String[] {"clear() = 1", "load() = 0"}) {
+            SCRIPT.run("promises 9, 39: both slots stay", ITEM + " = 0; save(0) = 1;" + ITEM + " = 1",
+                    "save(1) = 2; restore(0) = 1", call, "restore(0) = 1; restore(1) = 2;",
+                    "cancel(0) = 0; restore(1) = 2; state(0) = 1");
+        }
         SCRIPT.run("promise 41: the other slot stays empty", ITEM + " = 0; save(1) = 1",
                 "restore(0) = NOT_POSSIBLE; clear() = 1; restore(0) = NOT_POSSIBLE",
                 "restore(1) = 1; restore(1) = 1; restore(0) = NOT_POSSIBLE");

@@ -65,21 +65,22 @@ public final class ItemsAndEdgesTest {
     }
 
     private static void linkSettles() {
-        SCRIPT.run("link: broken or satisfied at once", THREE, "add(1, 1, 1, 0, 0) = 3",
+        SCRIPT.run("promise 3: broken or satisfied at once", THREE, "add(1, 1, 1, 0, 0) = 3",
                 "cancel(0) = 0; link(0, 1, 1) = 1; state(1) = 1; link(1, 2, 0) = 2; state(2) = 0",
                 "link(3, 1, 0) = 3; state(1) = 0; link(0, 1, 0) = 3; state(1) = 5; state(2) = 5",
                 "state(3) = 1");
-        SCRIPT.run("link: the kind changed", THREE, "link(0, 1, 1) = 1; state(1) = 0",
+        SCRIPT.run("promise 3: the kind changed", THREE, "link(0, 1, 1) = 1; state(1) = 0",
                 "cancel(0) = 0; state(1) = 1; link(0, 1, 0) = 1; state(1) = 5");
-        SCRIPT.run("link: a dead predecessor", THREE, "receive(1) = 0; tick(1) = 1; state(0) = 6",
+        SCRIPT.run("promise 3: a dead predecessor",
+                THREE, "receive(1) = 0; tick(1) = 1; state(0) = 6",
                 "link(0, 1, 1) = 1; state(1) = 1; link(0, 2, 0) = 2; state(2) = 5");
-        SCRIPT.run("link: a doomed predecessor", THREE, "link(0, 1, 0) = 1; cancel(0) = 1",
+        SCRIPT.run("promise 3: a doomed predecessor", THREE, "link(0, 1, 0) = 1; cancel(0) = 1",
                 "link(1, 2, 1) = 2; state(2) = 1; link(1, 2, 0) = 2; state(2) = 5");
-        SCRIPT.run("link: a satisfied edge leaves the ready time", "add(0, 1, 1, 0, 0) = 0",
+        SCRIPT.run("promise 3: a satisfied edge leaves the ready time", "add(0, 1, 1, 0, 0) = 0",
                 "add(0, 1, 1, 0, 3) = 1; receive(9) = 0; finish(0, 1) = 0; tick(2) = 0",
                 "link(0, 1, 0) = 1; state(1) = 1; property(1, 6) = 3; setPolicy(2) = 0",
                 "rank(1) = 20");
-        SCRIPT.run("link: a ready time begins anew after waiting", "add(0, 1, 1, 0, 0) = 0",
+        SCRIPT.run("promise 3: a ready time begins anew after waiting", "add(0, 1, 1, 0, 0) = 0",
                 "add(0, 1, 1, 0, 3) = 1; link(0, 1, 0) = 1; state(1) = 0; property(1, 6) = -7",
                 "tick(2) = 0; unlink(0, 1) = 0; state(1) = 1; property(1, 6) = 5",
                 "setPolicy(2) = 0; tick(1) = 0; rank(1) = 10");
@@ -118,11 +119,11 @@ public final class ItemsAndEdgesTest {
 
     private static void witnessIsGone() {
         String cycle = THREE + "link(1, 1, 0) = -5; witness(0) = 1;";
-        SCRIPT.run("witness after clear", cycle, "clear() = 3; witness(0) = -7");
-        SCRIPT.run("witness after load", cycle, "load() = 0; witness(0) = -7");
-        SCRIPT.run("witness after restore", cycle, "save(0) = 3; witness(0) = 1",
+        SCRIPT.run("promise 4: the path is gone after clear", cycle, "clear() = 3; witness(0) = -7");
+        SCRIPT.run("promise 4: the path is gone after load", cycle, "load() = 0; witness(0) = -7");
+        SCRIPT.run("promise 4: the path is gone after restore", cycle, "save(0) = 3; witness(0) = 1",
                 "restore(0) = 3; witness(0) = -7; witness(-1) = -2");
-        SCRIPT.run("witness stays", cycle, "text(5w); load() = -4; restore(0) = -4",
+        SCRIPT.run("promise 4: the path stays", cycle, "text(5w); load() = -4; restore(0) = -4",
                 "restore(7) = -2; tick(3) = 0; receive(2) = 0; cancel(1) = 0; witness(0) = 1");
     }
 

@@ -93,6 +93,10 @@ public final class PropertiesTest {
                 "height(3) = 10; height(1) = 6; height(2) = 4; height(0) = 1; before(0) = 14",
                 "before(2) = 10; before(1) = 8; before(3) = 0; unlink(1, 2) = 3; before(0) = 12",
                 "height(3) = 6");
+        SCRIPT.run("promises 26 and 27: the first and the last item in the middle", THREE,
+                "link(1, 0, 0) = 1; link(0, 2, 1) = 2; before(2) = 3; height(1) = 3",
+                "link(2, 1, 0) = -5; unlink(0, 2) = 1; before(2) = 0; link(1, 2, 0) = 2",
+                "link(2, 0, 0) = 3; before(0) = 6; height(1) = 3; height(0) = 1");
     }
 
     private static void wouldDoom() {
@@ -116,6 +120,10 @@ public final class PropertiesTest {
                 "isSuperfluous(0, 4) = -1; isSuperfluous(-1, 0) = -1; link(0, 3, 1) = 5",
                 "isSuperfluous(0, 3) = 1; unlink(1, 2) = 4; isSuperfluous(0, 2) = 0",
                 "isSuperfluous(0, 3) = 1; edges() = 4");
+        SCRIPT.run("promise 29: through the first and the last item", THREE, "link(1, 2, 0) = 1",
+                "link(1, 0, 0) = 2; isSuperfluous(1, 2) = 0; link(0, 2, 0) = 3",
+                "isSuperfluous(1, 2) = 1; isSuperfluous(1, 0) = 0; unlink(0, 2) = 2",
+                "link(2, 0, 1) = 3; isSuperfluous(1, 0) = 1; isSuperfluous(1, 2) = 0");
         SCRIPT.run("promise 29: through an item that has ended", THREE, "link(0, 1, 1) = 1",
                 "link(1, 2, 1) = 2; link(0, 2, 1) = 3; cancel(1) = 0; isSuperfluous(0, 2) = 1");
     }

@@ -37,7 +37,8 @@ public final class TextTest {
     }
 
     private static void write() {
-        SCRIPT.run("promises 36 and 37", "wipe() = 0; write(31) = -2; write(127) = -2; write(-1) = -2",
+        SCRIPT.run("promises 36 and 37",
+                "wipe() = 0; write(31) = -2; write(127) = -2; write(-1) = -2",
                 "write(32) = 1; write(126) = 2; write(127) = -2; wipe() = 2; wipe() = 0",
                 "write(53) = 1; wipe() = 1; fault() = -7");
         StringBuilder full = new StringBuilder();
@@ -50,12 +51,13 @@ public final class TextTest {
 
     private static void faults() {
         for (String text : GOOD) {
-            SCRIPT.run("the text " + text, "text(" + text.replace(';', ',') + "); fault() = -7",
+            SCRIPT.run("promise 38: the text " + text,
+                    "text(" + text.replace(';', ',') + "); fault() = -7",
                     "wipe() = " + text.length());
         }
         for (int i = 0; i < BAD.length; i += 2) {
             // In a script a comma stands for a semicolon, so this comma is put by its number.
-            SCRIPT.run("the text " + BAD[i], BAD[i].equals("5w3,")
+            SCRIPT.run("promise 38: the text " + BAD[i], BAD[i].equals("5w3,")
                     ? "write(53) = 1; write(119) = 2; write(51) = 3; write(44) = 4"
                     : "text(" + BAD[i].replace(';', ',') + ")",
                     "fault() = " + BAD[i + 1], "load() = -4; fault() = " + BAD[i + 1]);
@@ -64,11 +66,14 @@ public final class TextTest {
 
     private static void manyItems() {
         String twenty = "0w1,".repeat(20);
-        SCRIPT.run("twenty items", "text(" + twenty + "); fault() = -7; load() = 20");
-        SCRIPT.run("a 21st item", "text(" + twenty + "0w1,); fault() = 80; load() = -4",
+        SCRIPT.run("promises 38, 39: twenty items",
+                "text(" + twenty + "); fault() = -7; load() = 20");
+        SCRIPT.run("promises 38, 39: a 21st item",
+                "text(" + twenty + "0w1,); fault() = 80; load() = -4",
                 "text(" + twenty + "x); fault() = 80; text(" + twenty + "0); fault() = 80");
         String eleven = "0w1,".repeat(11);
-        SCRIPT.run("two digits", "text(" + eleven + "0w1<10!09<1!00,); fault() = -7; load() = 12",
+        SCRIPT.run("promise 38: two digits",
+                "text(" + eleven + "0w1<10!09<1!00,); fault() = -7; load() = 12",
                 "edge(10, 11) = 0; edge(9, 11) = 1; edge(1, 11) = 0; edge(0, 11) = 1; edges() = 4",
                 "text(" + eleven + "0w1<11,); fault() = 48; text(" + eleven + "0w1<100,)",
                 "fault() = 50; text(" + eleven + "0w1<10<1<10,); fault() = 53; items() = 12");
@@ -99,7 +104,8 @@ public final class TextTest {
     /** 200 characters: 4 + 6 + 17 * 10 + 20. */
     private static void longestText() {
         String text = "0w1," + "0w1<0," + "0w1<00<01,".repeat(17) + "0w01<00<01<02<03!04,";
-        SCRIPT.run("200 characters", "text(" + text + "); fault() = -7; load() = 20; edges() = 40",
+        SCRIPT.run("promises 36 to 39: 200 characters",
+                "text(" + text + "); fault() = -7; load() = 20; edges() = 40",
                 "write(48) = -3; edge(4, 19) = 1; edge(3, 19) = 0; before(19) = 31; wipe() = 200");
     }
 }

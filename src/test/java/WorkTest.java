@@ -156,11 +156,11 @@ public final class WorkTest {
 
     /** Ascending order, with what has been changed so far. */
     private static void settlingGoesInOrder() {
-        SCRIPT.run("settling: a lower item waits for a moment", "add(1, 1, 1, 0, 4) = 0",
+        SCRIPT.run("promise 16: settling, a lower item waits for a moment", "add(1, 1, 1, 0, 4) = 0",
                 "add(1, 1, 1, 0, 0) = 1; add(1, 1, 1, 0, 0) = 2; link(1, 0, 1) = 1",
                 "link(2, 1, 0) = 2; cancel(2) = 1; state(0) = 1; property(0, 6) = 4; tick(1) = 0",
                 "revive(1) = 5; state(0) = 1; property(0, 6) = 5");
-        SCRIPT.run("settling: a higher item does not", "add(1, 1, 1, 0, 0) = 0",
+        SCRIPT.run("promise 16: settling, a higher item does not", "add(1, 1, 1, 0, 0) = 0",
                 "add(1, 1, 1, 0, 0) = 1; add(1, 1, 1, 0, 4) = 2; link(0, 1, 0) = 1",
                 "link(1, 2, 1) = 2; cancel(0) = 1; property(2, 6) = 4; tick(1) = 0",
                 "revive(1) = 5; state(2) = 1; property(2, 6) = 4");
